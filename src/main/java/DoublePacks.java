@@ -398,7 +398,7 @@ public final class DoublePacks {
             if (halvings < 0) {
                 return BOUND;
             }
-            // Below 2^88 / 2^89: this holds for all doubles that lack the hidden bit, too.
+            // The product is below 2^88, so nothing is left of it; all doubles without the hidden bit end here.
             if (halvings > 88) {
                 return 0;
             }
