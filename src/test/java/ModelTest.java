@@ -10,11 +10,10 @@ public final class ModelTest {
 
     public static void main(String[] args) {
         for (int run = 0; run < 400; run++) {
-            DoublePacks x = new DoublePacks();
-            List<Long> row = fill(x, run);
-            askValues(x, row, run);
-            askPacked(x, row, run);
-            askTapes(x, run);
+            List<Long> row = made(run);
+            askValues(row, run);
+            askPacked(row, run);
+            askTapes(row, run);
         }
         for (int run = 0; run < 6000; run++) {
             askMadeUpTape(run);
@@ -22,29 +21,21 @@ public final class ModelTest {
         CHECK.end();
     }
 
-    private static List<Long> fill(DoublePacks x, int run) {
+    private static List<Long> made(int run) {
         List<Long> row = new ArrayList<>();
         int count = run % 9 == 0 ? 256 : RANDOM.nextInt(run % 3 == 0 ? 100 : 20);
         int shape = run % 14;
         while (row.size() < count) {
             int own = shape >= 12 ? row.size() / 9 % 12 : shape;
-            if (own == 0 && RANDOM.nextInt(3) > 0) {
-                addDecimal(x, row);
-            } else {
-                long bits = shaped(own, row);
-                row.add(bits);
-                CHECK.same("run " + run + ": add", x.add(bits), row.size());
-            }
+            row.add(shaped(own, row));
         }
         return row;
     }
 
-    private static void addDecimal(DoublePacks x, List<Long> row) {
-        int n = RANDOM.nextInt() >> RANDOM.nextInt(32);
-        int e = RANDOM.nextInt(16);
-        CHECK.same("decimal", x.decimal(n, e), row.size() + 1);
-        row.add(Model.nearest(n, e));
-        CHECK.same("decimal(" + n + ", " + e + ")", x.value(row.size() - 1), row.get(row.size() - 1));
+    private static void addAll(DoublePacks x, List<Long> row) {
+        for (int i = 0; i < row.size(); i++) {
+            CHECK.same("add", x.add(row.get(i)), i + 1);
+        }
     }
 
     private static long shaped(int shape, List<Long> row) {
@@ -78,13 +69,14 @@ public final class ModelTest {
         }
     }
 
-    private static void askValues(DoublePacks x, List<Long> row, int run) {
+    private static void askValues(List<Long> row, int run) {
         String name = "run " + run + ": ";
-        CHECK.same(name + "count()", x.count(), row.size());
+        Anew x = new Anew(row.size(), y -> addAll(y, row));
+        CHECK.same(name + "count()", x.ask().count(), row.size());
         for (int i = 0; i <= row.size(); i += 1 + RANDOM.nextInt(3)) {
             for (int kind = 1; kind <= 5; kind++) {
                 int s = 1 + RANDOM.nextInt(8);
-                CHECK.same(name + "foretold(" + i + ", " + kind + ", " + s + ")", x.foretold(i, kind, s),
+                CHECK.same(name + "foretold(" + i + ", " + kind + ", " + s + ")", x.ask().foretold(i, kind, s),
                         Model.foretold(row, i, kind, s));
             }
             if (i < row.size()) {
@@ -93,86 +85,81 @@ public final class ModelTest {
         }
     }
 
-    private static void askValue(DoublePacks x, List<Long> row, int i, String name) {
+    private static void askValue(Anew x, List<Long> row, int i, String name) {
         long bits = row.get(i);
-        CHECK.same(name + "value(" + i + ")", x.value(i), bits);
-        CHECK.same(name + "turned(" + i + ")", x.turned(i), Model.turned(bits));
-        CHECK.same(name + "power(" + i + ")", x.power(i), Model.power(bits));
+        CHECK.same(name + "value(" + i + ")", x.ask().value(i), bits);
+        CHECK.same(name + "turned(" + i + ")", x.ask().turned(i), Model.turned(bits));
+        CHECK.same(name + "power(" + i + ")", x.ask().power(i), Model.power(bits));
         int below = 0;
         for (long other : row) {
             below += Model.turned(other) < Model.turned(bits) ? 1 : 0;
         }
-        CHECK.same(name + "rank(" + i + ")", x.rank(i), below);
+        CHECK.same(name + "rank(" + i + ")", x.ask().rank(i), below);
         int e = RANDOM.nextInt(16);
         Long k = Model.scaled(bits, e);
         if (k == null) {
-            CHECK.thrown(name + "scaled(" + i + ", " + e + ")", ArithmeticException.class, () -> x.scaled(i, e));
+            CHECK.notDecimal(name + "scaled(" + i + ", " + e + ")", () -> x.ask().scaled(i, e));
         } else {
-            CHECK.same(name + "scaled(" + i + ", " + e + ")", x.scaled(i, e), k);
+            CHECK.same(name + "scaled(" + i + ", " + e + ")", x.ask().scaled(i, e), k);
         }
     }
 
-    private static void askPacked(DoublePacks x, List<Long> row, int run) {
+    private static void askPacked(List<Long> row, int run) {
         for (int turn = 0; turn < 3; turn++) {
             int size = SIZES[RANDOM.nextInt(SIZES.length)];
+            int other = SIZES[RANDOM.nextInt(SIZES.length)];
             String name = "run " + run + " packed by " + size + ": ";
             Model.Packed due = Model.pack(row, size);
-            CHECK.same(name + "pack()", x.pack(size), due.bits.length() / 8);
-            CHECK.same(name + "size()", x.size(), due.bits.length() / 8);
-            CHECK.same(name + "OUT is as due", Rows.outBits(x).equals(due.bits) ? 1 : 0, 1);
-            CHECK.same(name + "blocks()", x.blocks(), due.ways.size());
+            Anew x = new Anew(row.size() + 2, y -> {
+                addAll(y, row);
+                y.pack(other);
+                CHECK.same(name + "pack()", y.pack(size), due.bits.length() / 8);
+            });
+            CHECK.same(name + "size()", x.ask().size(), due.bits.length() / 8);
+            for (int i = 0; i < due.bits.length() / 8; i++) {
+                CHECK.same(name + "out(" + i + ")", x.ask().out(i),
+                        Integer.parseInt(due.bits.substring(8 * i, 8 * i + 8), 2));
+            }
+            CHECK.same(name + "blocks()", x.ask().blocks(), due.ways.size());
             for (int b = 0; b < due.ways.size(); b++) {
-                CHECK.same(name + "way(" + b + ")", x.way(b), due.ways.get(b));
+                CHECK.same(name + "way(" + b + ")", x.ask().way(b), due.ways.get(b));
                 for (int way = 0; way < 8; way++) {
-                    CHECK.same(name + "bits(" + b + ", " + way + ")", x.bits(b, way), due.counts.get(b)[way]);
+                    CHECK.same(name + "bits(" + b + ", " + way + ")", x.ask().bits(b, way), due.counts.get(b)[way]);
                 }
             }
         }
     }
 
-    private static void askTapes(DoublePacks x, int run) {
-        long[] whole = Rows.values(x);
-        String tape = Rows.outBits(x);
-        x.turn();
-        x.clear();
-        CHECK.same("run " + run + ": open()", x.open(), 0);
-        same("run " + run + ": the row comes again", x, whole);
+    private static void askTapes(List<Long> row, int run) {
+        String tape = Model.pack(row, SIZES[RANDOM.nextInt(SIZES.length)]).bits;
+        askOpen("run " + run, tape);
         for (int turn = 0; turn < 20; turn++) {
-            x.turn();
             StringBuilder changed = new StringBuilder(tape);
             int at = RANDOM.nextInt(Math.min(tape.length(), turn < 10 ? 60 : tape.length()));
             changed.setCharAt(at, changed.charAt(at) == '0' ? '1' : '0');
-            x.change(at / 8, 128 >> at % 8);
             if (turn % 3 == 0) {
-                int cut = RANDOM.nextInt(tape.length() / 8 + 1);
-                x.cut(cut);
-                changed.setLength(8 * cut);
+                changed.setLength(8 * RANDOM.nextInt(tape.length() / 8 + 1));
             } else if (turn % 3 == 1) {
-                mendCheck(x, changed);
+                String before = changed.substring(0, tape.length() - 16);
+                changed.replace(before.length(), tape.length(), Rows.check(before));
             }
-            askOpen("run " + run + " changed at " + at, x, changed.toString());
+            askOpen("run " + run + " changed at " + at, changed.toString());
         }
     }
 
-    private static void mendCheck(DoublePacks x, StringBuilder tape) {
-        String before = tape.substring(0, tape.length() - 16);
-        String check = Rows.check(before);
-        x.cut(before.length() / 8);
-        x.feed(Long.parseLong(check, 2), 2);
-        tape.replace(before.length(), tape.length(), check);
-    }
-
-    private static void askOpen(String name, DoublePacks x, String tape) {
-        long[] before = Rows.values(x);
+    private static void askOpen(String name, String tape) {
         Model.Opened due = Model.open(tape);
-        CHECK.same(name + ": open()", x.open(), due.fault);
-        CHECK.same(name + ": place()", x.place(), due.place);
-        long[] after = due.fault == 0 ? due.row.stream().mapToLong(Long::longValue).toArray() : before;
-        same(name + ": the row", x, after);
-    }
-
-    private static void same(String name, DoublePacks x, long[] due) {
-        CHECK.same(name, java.util.Arrays.equals(Rows.values(x), due) ? 1 : 0, 1);
+        List<Long> row = due.fault == 0 ? due.row : List.of(1L, 2L);
+        Anew x = new Anew(3 + (tape.length() + 63) / 64, y -> {
+            addAll(y, List.of(1L, 2L));
+            Rows.feedBits(y, tape);
+            CHECK.same(name + ": open()", y.open(), due.fault);
+        });
+        CHECK.same(name + ": place()", x.ask().place(), due.place);
+        CHECK.same(name + ": count()", x.ask().count(), row.size());
+        for (int i = 0; i < row.size(); i++) {
+            CHECK.same(name + ": value(" + i + ")", x.ask().value(i), row.get(i));
+        }
     }
 
     /** Blocks that pack() would never write, of ways that change: few are whole, and all end in a right CHECK. */
@@ -183,7 +170,6 @@ public final class ModelTest {
         for (int left = values; left > 0; left -= size) {
             blocks.append(madeUpBlock(Math.min(left, size)));
         }
-        DoublePacks x = Rows.of(1, 2);
         String tape = Rows.packed(values, size, blocks.toString());
         int more = RANDOM.nextInt(12);
         if (more == 0) {
@@ -191,8 +177,7 @@ public final class ModelTest {
         } else if (more == 1) {
             tape = tape.substring(0, tape.length() - 8 * (1 + RANDOM.nextInt(tape.length() / 8)));
         }
-        Rows.feedBits(x, tape);
-        askOpen("made up tape " + run, x, tape);
+        askOpen("made up tape " + run, tape);
     }
 
     private static String madeUpBlock(int count) {

@@ -1,5 +1,15 @@
-/** What several tests do with objects of DoublePacks. */
+/** What several tests do with objects of DoublePacks: each has 512 calls at most, as the document tells no more. */
 final class Rows {
+    /** Wrong for any index or number that is not below 0 and has a bound. */
+    static final int[] FAR = {Integer.MIN_VALUE, Integer.MIN_VALUE + 1, -256, -2, -1, Integer.MAX_VALUE - 1,
+        Integer.MAX_VALUE};
+    /** No number, endless, without the hidden bit, the greatest, 0 of both signs: doubles at all their edges. */
+    static final long[] ODD_BITS = {
+        0, 1, 0x000FFFFFFFFFFFFFL, 0x0010000000000000L, 0x7FEFFFFFFFFFFFFFL, 0x7FF0000000000000L, 0x7FF0000000000001L,
+        0x7FF8000000000000L, 0x7FFFFFFFFFFFFFFFL, 0x8000000000000000L, 0x8000000000000001L, 0x800FFFFFFFFFFFFFL,
+        0x8010000000000000L, 0xFFEFFFFFFFFFFFFFL, 0xFFF0000000000000L, 0xFFF0000000000001L, 0xFFF8000000000000L, -1
+    };
+
     private Rows() {
     }
 
@@ -23,11 +33,45 @@ final class Rows {
         return x;
     }
 
-    static DoublePacks full() {
+    /** The values 0, 1, .. as bits. */
+    static DoublePacks counted(int count) {
         DoublePacks x = new DoublePacks();
-        for (int i = 0; i < 256; i++) {
+        for (int i = 0; i < count; i++) {
             x.add(i);
         }
+        return x;
+    }
+
+    static DoublePacks full() {
+        return counted(256);
+    }
+
+    /** So many values 0, read from a tape: in a few calls. */
+    static DoublePacks zeros(int count) {
+        DoublePacks x = new DoublePacks();
+        feedBits(x, packed(count, 64, zeroBlocks(count, 64)));
+        x.open();
+        x.cut(0);
+        return x;
+    }
+
+    static String zeroBlocks(int count, int size) {
+        StringBuilder blocks = new StringBuilder();
+        for (int i = 0; i < count; i++) {
+            blocks.append(i % size == 0 ? "001" : "").append('0');
+        }
+        return blocks.toString();
+    }
+
+    /** Values, an OUT that is not theirs any more, a TAPE that is another one, and a FAULT told. */
+    static DoublePacks busy() {
+        DoublePacks x = ofDoubles(1.5, 2.25, -0.0, 1 / 3.0);
+        x.pack(2);
+        x.turn();
+        x.change(3, 64);
+        x.open();
+        x.feed(0xABCDEF, 3);
+        x.decimal(-77, 1);
         return x;
     }
 
@@ -50,9 +94,7 @@ final class Rows {
     static String outBits(DoublePacks x) {
         StringBuilder all = new StringBuilder();
         for (int octet : out(x)) {
-            for (int k = 7; k >= 0; k--) {
-                all.append(octet >> k & 1);
-            }
+            all.append(number(octet, 8));
         }
         return all.toString();
     }
@@ -69,8 +111,9 @@ final class Rows {
         while (all.length() % 8 != 0) {
             all.append('0');
         }
-        for (int i = 0; i < all.length(); i += 8) {
-            x.feed(Integer.parseInt(all.substring(i, i + 8), 2), 1);
+        for (int i = 0; i < all.length(); i += 64) {
+            String word = all.substring(i, Math.min(i + 64, all.length()));
+            x.feed(Long.parseUnsignedLong(word, 2), word.length() / 8);
         }
     }
 
@@ -82,9 +125,14 @@ final class Rows {
         return told.toString();
     }
 
+    /** How a tape begins. */
+    static String start(int values, int size) {
+        return number(values, 9) + number(size, 7);
+    }
+
     /** A whole tape: the start, the blocks, the end of the byte and the CHECK. */
     static String packed(int values, int size, String blocks) {
-        StringBuilder all = new StringBuilder(number(values, 9) + number(size, 7) + blocks.replace(" ", ""));
+        StringBuilder all = new StringBuilder(start(values, size) + blocks.replace(" ", ""));
         while (all.length() % 8 != 0) {
             all.append('0');
         }
