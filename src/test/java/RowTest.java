@@ -53,6 +53,7 @@ public final class RowTest {
     private static void promise1ObjectsAreApart() {
         CHECK.says("Promise 1: A new object");
         DoublePacks x = Rows.busy();
+        CHECK.same("a FAULT is told of the busy one", x.place() == DoublePacks.NONE ? 0 : 1, 1);
         DoublePacks y = new DoublePacks();
         CHECK.same("count() of another object", y.count(), 0);
         CHECK.same("size() of another object", y.size(), 0);
@@ -170,6 +171,14 @@ public final class RowTest {
             x.add(bits);
         }
         CHECK.same("a cleared object and a new one", State.of(x), State.of(y));
+        // The value leads both tables to a place that is not 0; then they are at 0 again.
+        for (long high = 1; high < 64; high++) {
+            DoublePacks z = Rows.of(high << 56);
+            z.clear();
+            z.add(5);
+            CHECK.same("cleared at place " + high + ": the table", z.foretold(1, 4, 0), 5);
+            CHECK.same("cleared at place " + high + ": the steps", z.foretold(1, 5, 0), 10);
+        }
     }
 
     private static void promise6Value() {
